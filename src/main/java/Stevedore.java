@@ -1369,7 +1369,6 @@ public final class Stevedore {
             } else {
                 reshuffleCount += moves;
                 lift(stackOfContainer[container]);
-                stackOfContainer[container] = -1;
                 state[container] = STATE_GONE;
             }
         }
@@ -1392,14 +1391,12 @@ public final class Stevedore {
             int stack = stackOfContainer[container];
             int moves = 0;
             while (moves < MOST_HEIGHT && uppermost(stack) != container) {
-                int moved = uppermost(stack);
-                int to = stackFor(moved, stack);
+                int to = stackFor(uppermost(stack), stack);
                 if (to < 0) {
                     putBack(stack, moves);
                     return -1;
                 }
-                lift(stack);
-                putOn(moved, to);
+                putOn(lift(stack), to);
                 wentTo[moves] = to;
                 moves++;
             }
@@ -1413,6 +1410,9 @@ public final class Stevedore {
         }
 
         private void putOn(int container, int stack) {
+            if (container < 0 || height[stack] >= MOST_HEIGHT) {
+                return;
+            }
             standing[stack][height[stack]] = container;
             height[stack]++;
             stackOfContainer[container] = stack;
@@ -1420,12 +1420,16 @@ public final class Stevedore {
 
         private int lift(int stack) {
             int lifted = uppermost(stack);
-            height[stack]--;
+            if (lifted >= 0) {
+                height[stack]--;
+                stackOfContainer[lifted] = -1;
+            }
             return lifted;
         }
 
+        /** The uppermost container of a stack; -1 if it is empty. */
         private int uppermost(int stack) {
-            return standing[stack][height[stack] - 1];
+            return height[stack] > 0 ? standing[stack][height[stack] - 1] : -1;
         }
 
         private boolean canStand(int container, int stack) {
