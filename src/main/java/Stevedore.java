@@ -826,13 +826,14 @@ public final class Stevedore {
             }
         }
 
-        /** The end of the shortest range from a bay on that leaves a good enough rest for the ranges behind it. */
+        /**
+         * The end of the shortest range from a bay on behind which the rest is good enough. One that is long enough
+         * for that is there, and a shorter one has no greater load; so its own load need not be looked at.
+         */
         private int endOfShortest(Vessel vessel, int first, int rangesBehind) {
-            int load = -1;
-            for (int b = first; b < vessel.bays; b++) {
-                load += vessel.ticksIn(b) + 1;
-                if (Math.max(load, least[rangesBehind][b + 1]) <= vessel.greatestLoad) {
-                    return b + 1;
+            for (int end = first + 1; end < vessel.bays; end++) {
+                if (least[rangesBehind][end] <= vessel.greatestLoad) {
+                    return end;
                 }
             }
             return vessel.bays;
