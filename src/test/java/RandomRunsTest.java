@@ -1,5 +1,3 @@
-import java.lang.reflect.InvocationTargetException;
-import java.lang.reflect.Method;
 import java.util.Arrays;
 import java.util.HashMap;
 import java.util.Map;
@@ -20,8 +18,7 @@ public final class RandomRunsTest {
     private static final int[] WRONG = {-1, Integer.MIN_VALUE, Integer.MAX_VALUE, 16, 61, 401, 24, 6, 7, 0};
 
     private final Check check = new Check("RandomRunsTest");
-    private final Map<String, Method> onProgram = methods(Stevedore.class);
-    private final Map<String, Method> onModel = methods(PlainModel.class);
+    private final Calls onModel = new Calls(PlainModel.class);
     private final Map<String, Integer> seen = new HashMap<>();
     private Random random;
     private Stevedore program;
@@ -35,21 +32,6 @@ public final class RandomRunsTest {
         }
         test.needSeen();
         test.check.end();
-    }
-
-    private static Map<String, Method> methods(Class<?> type) {
-        Map<String, Method> all = new HashMap<>();
-        for (Method method : type.getDeclaredMethods()) {
-            if (java.lang.reflect.Modifier.isPublic(method.getModifiers())) {
-                method.setAccessible(true);
-                all.put(keyOf(method), method);
-            }
-        }
-        return all;
-    }
-
-    private static String keyOf(Method method) {
-        return method.getName() + (method.getName().equals("work") ? method.getParameterCount() : "");
     }
 
     private void oneRun(int number) {
@@ -164,7 +146,7 @@ public final class RandomRunsTest {
         call("setRoom", (slot + 5) % 16, 6);
         call("plan");
         call("giveSlots");
-        for (int i = 0; i < 50; i++) {
+        for (int i = 0; i < 38; i++) {
             call("work1", random.nextInt(3));
             if (random.nextInt(3) == 0) {
                 call("tidy", random.nextInt(3));
@@ -177,7 +159,7 @@ public final class RandomRunsTest {
             call("blocking");
             call("reshuffles");
             call("digest");
-            if (i == 25) {
+            if (i == 20) {
                 call(random.nextBoolean() ? "giveSlots" : "blocking");
             }
         }
@@ -185,7 +167,7 @@ public final class RandomRunsTest {
 
     private void addContainerTo(int vessel) {
         int bay = random.nextInt(10);
-        while (bay > 0 && told(onModel, model, "work2", vessel, bay).startsWith("throws")) {
+        while (bay > 0 && onModel.told(model, "work2", vessel, bay).startsWith("throws")) {
             bay /= 2;
         }
         int weight = random.nextBoolean() ? 1 + random.nextInt(40) : 10 + random.nextInt(12);
@@ -230,33 +212,18 @@ public final class RandomRunsTest {
     }
 
     private void call(String name, int... numbers) {
-        String due = told(onModel, model, name, numbers);
-        String got = told(onProgram, program, name, numbers);
+        String due = onModel.told(model, name, numbers);
+        String got = Calls.FACE.told(program, name, numbers);
         check.same("run " + run + ": " + name + Arrays.toString(numbers), due, got);
         seen.merge(name + " " + (due.length() == 1 || due.startsWith("-") || due.startsWith("throws") ? due : "more"),
                 1, Integer::sum);
     }
 
-    private static String told(Map<String, Method> methods, Object object, String name, int... numbers) {
-        Method method = methods.get(name);
-        Object[] given = new Object[numbers.length];
-        for (int i = 0; i < numbers.length; i++) {
-            boolean isTold = method.getParameterTypes()[i] == boolean.class;
-            given[i] = isTold ? (Object) (numbers[i] == 1) : (Object) numbers[i];
-        }
-        try {
-            return method.invoke(object, given).toString();
-        } catch (InvocationTargetException thrown) {
-            return "throws " + thrown.getCause().getClass().getName();
-        } catch (IllegalAccessException shut) {
-            throw new IllegalStateException(shut);
-        }
-    }
-
     /** The runs say nothing about what never comes up in them. */
     private void needSeen() {
         String[] due = {
-            "plan -1", "plan 0", "plan more", "plan throws java.lang.IllegalStateException", "delayIf -1", "vesselAt -1",
+            "plan -1", "plan 0", "plan more", "plan throws java.lang.IllegalStateException", "delayIf -1",
+            "vesselAt -1",
             "delayByNumbers -1", "slotOf -1", "stateOf 0", "stateOf 1", "stateOf 2", "stateOf 3", "stateOf 4",
             "wouldTake -2", "wouldTake -1", "wouldTake 0", "wouldTake 1", "wouldTake 2", "wouldTake 3",
             "tidy 0", "tidy 1", "tidy 2", "blocking 2", "reshuffles 5", "inTheEnd 3", "waits 1",
