@@ -140,6 +140,11 @@ public final class EdgesOfBerthsTest {
         RUNS.holds("27: one goes as the other one comes",
                 TWO_BY_TURNS + "plan = 7; cranesAt 0 = 1; cranesAt 6 = 1; cranesAt 7 = 1; cranesAt 13 = 1",
                         "cranesAt 14 = 0");
+        RUNS.holds("26: the last one of six",
+                "setCranes 6; 6 x addVessel 9 1 1 1; plan = 0; placeOf 5 = 10; vesselAt 10 9 = 5",
+                "vesselAt 11 9 = -1; vesselAt 19 0 = -1; vesselAt 10 10 = -1");
+        RUNS.holds("27: all six",
+                "setCranes 6; 6 x addVessel 9 1 1 1; plan = 0; cranesAt 9 = 6; cranesAt 8 = 0; cranesAt 10 = 0");
         RUNS.holds("27: as many as there are",
                 "setCranes 6; addVessel 0 1 1 4; addVessel 0 1 1 2; plan = 0; cranesAt 0 = 6; cranesAt 1 = 0");
     }
@@ -154,6 +159,9 @@ public final class EdgesOfBerthsTest {
                 TWO_BY_TURNS + "setVessel 1 6 1; plan = 1; startOf 1 = 7");
         RUNS.holds("24: ends as the other one comes",
                 TWO_BY_TURNS + "setVessel 0 7 1; plan = 0; startOf 0 = 7; startOf 1 = 0");
+        RUNS.holds("24: ends as the other one comes, by numbers, too",
+                TWO_BY_TURNS + "setVessel 0 7 1; delayByNumbers = 0",
+                "plan = 0; orderAt 0 = 0; startOf 0 = 7; startOf 1 = 0");
         RUNS.holds("24: would end a tick behind the other one's coming",
                 TWO_BY_TURNS + "setVessel 0 6 1; plan = 1; startOf 0 = 7; startOf 1 = 0; orderAt 0 = 1");
         RUNS.holds("24: all six, one behind the other, all of rank 9",
@@ -193,6 +201,15 @@ public final class EdgesOfBerthsTest {
         RUNS.holds("24: one that comes later needs them, too",
                 "setCranes 1; addVessel 2 1 9 1; addVessel 0 2 1 1; handling 1 = 3; plan = 3; startOf 0 = 2",
                 "startOf 1 = 3");
+        RUNS.holds("24: one that comes later, and both are as many as there are",
+                "addVessel 2 1 9 2; addVessel 0 2 1 1; handling 1 = 3; delayByNumbers = 0; plan = 0; cranesAt 2 = 3");
+        RUNS.holds("24: one that comes later, and both are one more than there are",
+                "setCranes 2; addVessel 2 1 9 2; addVessel 0 2 1 1; delayByNumbers = 3; plan = 3; startOf 1 = 3");
+        RUNS.holds("24: one that comes later as another one goes", "setCranes 2; addVessel 0 1 9 1; addVessel 1 1 9 1",
+                "addVessel 0 2 1 1; handling 2 = 3; delayByNumbers = 0; cranesAt 0 = state; plan = 0",
+                "cranesAt 0 = 2; cranesAt 1 = 2");
+        RUNS.holds("24: one that comes as it ends does not, by numbers, too",
+                "setCranes 1; addVessel 3 1 9 1; addVessel 0 2 1 1; delayByNumbers = 0; plan = 0; orderAt 0 = 0");
         RUNS.holds("24: one that comes as it ends does not",
                 "setCranes 1; addVessel 3 1 9 1; addVessel 0 2 1 1; plan = 0; startOf 0 = 3; startOf 1 = 0");
     }
@@ -240,6 +257,10 @@ public final class EdgesOfBerthsTest {
         RUNS.holds("28: the order by numbers",
                 "setCranes 1; addVessel 0 2 1 1; addVessel 0 2 9 1; delayByNumbers = 27; plan = 3",
                 "delayByNumbers = 27");
+        RUNS.holds("28: six vessels", "setCranes 1; 6 x addVessel 0 1 1 1; delayByNumbers = 15; plan = 15");
+        RUNS.holds("28: an order that a better one passes by",
+                "setCranes 1; addVessel 0 4 1 1; addVessel 0 1 9 1; addVessel 0 1 9 1",
+                "delayByNumbers = 135; plan = 11; orderAt 0 = 1; orderAt 1 = 2; orderAt 2 = 0");
         RUNS.holds("28: there is still no plan",
                 "addVessel 0 1 1 1; delayByNumbers = 0; isPlanned = false; startOf 0 = state");
         RUNS.holds("28: the plan stays",
@@ -265,6 +286,8 @@ public final class EdgesOfBerthsTest {
                 TWO_BY_TURNS + "delayIf 2 401 = index; delayIf -1 -1 = index");
         RUNS.holds("29: as the other one ends",
                 TWO_BY_TURNS + "delayIf 1 7 = 0; delayIf 1 6 = 1; delayIf 0 7 = 0; delayIf 0 6 = 1");
+        RUNS.holds("29: the last of six",
+                "setCranes 1; 6 x addVessel 0 1 1 1; delayIf 5 0 = 15; delayIf 5 5 = 10; delayIf 6 0 = index");
         RUNS.holds("29: one cannot be planned",
                 "setQuay 4; addVessel 0 4 1 1; addVessel 0 5 1 1; delayIf 0 400 = -1; delayIf 0 401 = argument");
         RUNS.holds("29: its arrival stays",
@@ -285,6 +308,8 @@ public final class EdgesOfBerthsTest {
         RUNS.holds("49: no plan, as one cannot be planned", "setQuay 4; addVessel 0 5 1 1; plan = -1; meanWait = 0.0");
         RUNS.holds("49: a plan that is gone", TWO_BY_TURNS + "plan = 7; meanWait = 3.5; setQuay 4; meanWait = 0.0");
         RUNS.holds("49: nobody waits", "addVessel 400 1 1 1; plan = 0; meanWait = 0.0");
+        RUNS.holds("49: the first one waits",
+                "setCranes 1; addVessel 0 2 1 1; addVessel 0 2 9 1; plan = 3; meanWait = 1.5");
         RUNS.holds("49: ranks do not count",
                 "setQuay 4; addVessel 0 4 9 1; addVessel 0 4 9 1; plan = 63; meanWait = 3.5");
         RUNS.holds("49: a third", "4 x addVessel 0 1 1 1; setVessel 3 400 1; setCranes 1; plan = 3; meanWait = 0.75",

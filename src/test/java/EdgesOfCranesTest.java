@@ -168,6 +168,9 @@ public final class EdgesOfCranesTest {
         RUNS.holds("19: the greatest END, be it in the middle",
                 "addVessel 0 3 1 3; 5 x addContainer 0 1 import 1 0; endOf 0 2 = 1; endOf 0 1 = 11; endOf 0 0 = 1",
                 "handling 0 = 11");
+        RUNS.holds("19: less again with more cranes, and more with fewer",
+                "addVessel 0 4 1 1; handling 0 = 7; setVessel 0 0 4",
+                "handling 0 = 2; waits 0 = 2; setVessel 0 0 1; handling 0 = 7; waits 0 = 0");
         RUNS.holds("19: does not hang on its arrival",
                 "addVessel 400 3 1 1; handling 0 = 5; setVessel 0 0 1; handling 0 = 5");
     }

@@ -255,6 +255,28 @@ public final class EdgesOfSlotsTest {
                 + "setRoom 14 0; setRoom 15 0; ";
         RUNS.holds("32: none is later than all", VESSEL + "2 x addContainer 0 0 import 1 3; " + onlySlot3 + "plan",
                 "giveSlots = 40; slotOf 0 = 3; slotOf 1 = -1");
+        RUNS.holds("32: then container 2, while those ahead of it stay",
+                "addVessel 40 1 1 1; addContainer 0 0 import 1 9",
+                "addContainer 0 0 import 1 9; addContainer 0 0 import 1 8; setRoom 7 0; setRoom 8 0; plan",
+                "giveSlots = 2",
+                "slotOf 0 = 9; slotOf 1 = 9; slotOf 2 = 6");
+        RUNS.holds("32: and so on: container 3",
+                "addVessel 120 1 1 1; addVessel 100 1 1 1; addContainer 0 0 import 1 4",
+                "addContainer 0 0 import 1 7; addContainer 1 0 import 1 5; addContainer 1 0 import 1 7; setRoom 1 1",
+                "setRoom 5 0; setRoom 9 1; plan; giveSlots = 5; slotOf 0 = 7; slotOf 1 = 7; slotOf 2 = 6",
+                "slotOf 3 = 6");
+        RUNS.holds("32: and so on, with an export among them",
+                "addVessel 240 1 1 1; addVessel 100 1 1 1; addVessel 160 1 1 1",
+                "addContainer 2 0 import 1 9; addContainer 2 0 import 1 8; addContainer 0 0 export 1 9",
+                "addContainer 1 0 import 1 9",
+                "plan; giveSlots = 3; slotOf 0 = 9; slotOf 1 = 9; slotOf 2 = 8; slotOf 3 = 8");
+        RUNS.holds("32: an export gives way to an import down to slot 0",
+                "addVessel 400 1 1 1; addVessel 0 1 1 1; addContainer 1 0 import 1 1; addContainer 0 0 export 1 1",
+                "setRoom 1 1",
+                "setRoom 2 0; setRoom 3 0; plan = 0; giveSlots = 1; slotOf 0 = 1; slotOf 1 = 0");
+        RUNS.holds("32: none for another one, if that costs less",
+                VESSEL + "addContainer 0 0 import 1 3; addContainer 0 0 import 1 4; ",
+                onlySlot3 + "plan; giveSlots = 40; slotOf 0 = 3; slotOf 1 = -1");
         RUNS.holds("32: none for container 0, if that costs less",
                 VESSEL + "addContainer 0 0 import 1 4; addContainer 0 0 import 1 3; ",
                 onlySlot3 + "plan; giveSlots = 40; slotOf 0 = -1; slotOf 1 = 3");

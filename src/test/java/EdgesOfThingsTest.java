@@ -20,6 +20,7 @@ public final class EdgesOfThingsTest {
         setRoom();
         addStack();
         counts();
+        lastCalls();
         CHECK.end();
     }
 
@@ -266,5 +267,15 @@ public final class EdgesOfThingsTest {
         RUNS.holds("12: none, one and the most", "stacks = 0; addStack 1; stacks = 1; 11 x addStack 1; stacks = 12");
         RUNS.holds("10 to 12: setting adds none", CONTAINER, "addStack 1; setVessel 0 1 1; setWish 0 1; setRoom 1 1",
                 "setQuay 9; setCranes 2; plan; giveSlots; work 9; vessels = 1; containers = 1; stacks = 1");
+    }
+
+    private static void lastCalls() {
+        RUNS.holds("What it is: 512 calls, setting", "510 x setQuay 9; setQuay 8 = 9; setQuay 7 = 8");
+        RUNS.holds("What it is: 512 calls, adding", "504 x setCranes 6; 6 x addVessel 0 1 1 1",
+                "addVessel 0 1 1 1 = state; vessels = 6");
+        RUNS.holds("What it is: 512 calls, planning", CONTAINER,
+                "506 x plan = 0; giveSlots = 0; work MAX = 2; stateOf 0 = 3",
+                "isPlanned = true");
+        RUNS.holds("What it is: 512 calls, refused", "511 x setQuay 3 = argument; setQuay 60 = 20");
     }
 }

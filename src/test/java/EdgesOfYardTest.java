@@ -256,6 +256,9 @@ public final class EdgesOfYardTest {
     private static void firsts() {
         RUNS.holds("41: FIRST alike to its LEAVING", yard(2, 2) + imports(10, 9, 10, 9) + GIVEN,
                 "work 2; stackOf 1 = 0; blocking = 0");
+        RUNS.holds("41: FIRST alike to its LEAVING, on the second stack", yard(2, 2, 2) + imports(10, 12, 30, 9, 10,
+                9) + GIVEN,
+                "work 3; stackOf 0 = 0; stackOf 1 = 1; stackOf 2 = 1; blocking = 0");
         RUNS.holds("41: FIRST less than its LEAVING", yard(2, 2) + imports(10, 8, 10, 9) + GIVEN,
                 "work 2; stackOf 1 = 1");
         RUNS.holds("41: FIRST more than its LEAVING", yard(2, 2) + imports(10, 9, 10, 8) + GIVEN,
@@ -343,6 +346,9 @@ public final class EdgesOfYardTest {
                 "work 6; containerAt 0 0 = 0; containerAt 0 1 = 3; containerAt 0 2 = 4; containerAt 0 3 = 5",
                 "work 3 = 9; reshuffles = 3",
                 "containerAt 1 0 = 5; containerAt 2 0 = 4; containerAt 2 1 = 3; heightOf 0 = 0; stateOf 0 = 2");
+        RUNS.holds("44: on the stack with number 0, too", yard(1, 2) + imports(40, 3, 10, 4, 18, 9) + GIVEN,
+                "work 3; stackOf 0 = 0; stackOf 1 = 1; stackOf 2 = 1; work 1 = 4; wouldTake 1 = 1; work 1 = 5",
+                "reshuffles = 1; stackOf 2 = 0");
         RUNS.holds("44: those below it stay", yard(3, 3) + imports(10, 9, 10, 8, 10, 7) + GIVEN,
                 "work 4 = 4; stateOf 2 = 2; containerAt 0 0 = 0; containerAt 0 1 = 1; heightOf 0 = 2; reshuffles = 0");
         RUNS.holds("44: 0 again with slots given anew", ONE_ABOVE,
@@ -429,6 +435,18 @@ public final class EdgesOfYardTest {
                 "work 3; stackOf 1 = 1; stackOf 2 = 0; blocking = 1; tidy MAX = 0; stackOf 2 = 0; reshuffles = 0");
         String two = yard(2, 2, 1, 1) + imports(30, 4, 10, 5, 40, 2, 40, 2, 38, 12, 18,
                 11) + GIVEN + "work 8 = 8; blocking = 2; ";
+        RUNS.holds("47: to the stack with number 0, too", yard(1, 2) + imports(40, 3, 10, 4, 18, 9) + GIVEN,
+                "work 4; blocking = 1; tidy MAX = 1; blocking = 0; stackOf 2 = 0; reshuffles = 1");
+        RUNS.holds("47: on one of the same time it does not block",
+                yard(2, 2) + imports(10, 4, 30, 9, 30, 3, 18, 9) + GIVEN,
+                "work 5; stackOf 1 = 1; stackOf 3 = 0; blocking = 1; tidy MAX = 1; stackOf 3 = 1; blocking = 0");
+        RUNS.holds("47: twelve stacks, the last one is free",
+                "10 x addStack 1; addStack 2; addStack 1; addVessel 0 1 1 1; 10 x addContainer 0 0 import 40 15",
+                "setRoom 15 6; setRoom 14 6",
+                "addContainer 0 0 import 10 4; addContainer 0 0 import 40 3; addContainer 0 0 import 18 9; plan",
+                "giveSlots = 4; work 13",
+                "stackOf 12 = 10; blocking = 1; tidy MAX = 0; work 1 = 14; stateOf 11 = 2; tidy MAX = 1",
+                "stackOf 12 = 11");
         RUNS.holds("47: from the smallest stack to the smallest one", two,
                 "tidy 1 = 1; stackOf 4 = 2; stackOf 5 = 1; blocking = 1; reshuffles = 1");
         RUNS.holds("47: at most 2, and 2 help", two,
@@ -458,6 +476,8 @@ public final class EdgesOfYardTest {
         RUNS.holds("48: reshuffles", ONE_ABOVE, "inTheEnd 0 = 1; inTheEnd 1 = 0; inTheEnd 2 = 0; inTheEnd 3 = 0");
         RUNS.holds("48: missed, and in the yard", SHUT_IN,
                 "inTheEnd 0 = 0; inTheEnd 1 = 0; inTheEnd 2 = 1; inTheEnd 3 = 1");
+        RUNS.holds("48: nobody blocks, as each stands where it leaves last", yard(2, 2) + imports(10, 8, 10, 9) + GIVEN,
+                "inTheEnd 0 = 0; inTheEnd 2 = 0; work 2; stackOf 1 = 1; inTheEnd 0 = 0; work MAX = 4; reshuffles = 0");
         RUNS.holds("48: turned away", yard(1) + imports(10, 9, 10, 8, 10, 7) + GIVEN, "inTheEnd 1 = 2; inTheEnd 3 = 0");
         RUNS.holds("48: nothing is changed", ONE_ABOVE,
                 "work 3; inTheEnd 0 = 1; reshuffles = 0; stateOf 1 = 1; stackOf 2 = 0; work 0 = 3; work 1 = 4");
