@@ -270,6 +270,29 @@ public final class EdgesOfSlotsTest {
                 "addContainer 2 0 import 1 9; addContainer 2 0 import 1 8; addContainer 0 0 export 1 9",
                 "addContainer 1 0 import 1 9",
                 "plan; giveSlots = 3; slotOf 0 = 9; slotOf 1 = 9; slotOf 2 = 8; slotOf 3 = 8");
+        RUNS.holds("32: and so on, the last one as early as can be", VESSEL + "addContainer 0 0 import 1 8",
+                "addContainer 0 0 export 1 6; addContainer 0 0 import 1 8; addContainer 0 0 import 1 7",
+                "setRoom 6 0; setRoom 7 0",
+                "plan; giveSlots = 42; slotOf 0 = 8; slotOf 1 = -1; slotOf 2 = 8; slotOf 3 = 5");
+        RUNS.holds("32: and so on, an export ahead of an import", "addVessel 100 1 1 1; addVessel 280 1 1 1",
+                "addContainer 0 0 import 1 5; addContainer 0 0 import 1 2; addContainer 1 0 export 1 6",
+                "addContainer 0 0 import 1 7",
+                "plan; giveSlots = 6; slotOf 0 = 6; slotOf 1 = 6; slotOf 2 = 5; slotOf 3 = 7");
+        RUNS.holds("32: and so on, six of them",
+                "addVessel 140 1 1 1; addVessel 260 1 1 1; addContainer 0 0 import 1 3",
+                "addContainer 0 0 export 1 6; addContainer 1 0 export 1 9; addContainer 0 0 export 1 8",
+                "addContainer 1 0 export 1 8",
+                "addContainer 1 0 export 1 6; setRoom 5 1; setRoom 6 1; setRoom 7 1; setRoom 8 0; plan; giveSlots = 12",
+                "slotOf 0 = 9; slotOf 1 = 4; slotOf 2 = 9; slotOf 3 = 5; slotOf 4 = 7; slotOf 5 = 6");
+        RUNS.holds("32: and so on, nine of them",
+                "addVessel 280 1 1 1; addVessel 120 1 1 1; addContainer 0 0 import 1 3",
+                "addContainer 1 0 export 1 8; addContainer 0 0 export 1 9; addContainer 1 0 import 1 2",
+                "addContainer 1 0 export 1 9",
+                "addContainer 1 0 import 1 7; addContainer 1 0 export 1 6; addContainer 1 0 import 1 9",
+                "addContainer 0 0 export 1 6",
+                "setRoom 6 0; setRoom 9 0; setRoom 14 0; plan; giveSlots = 30; slotOf 0 = 15; slotOf 1 = 4",
+                "slotOf 2 = 8",
+                "slotOf 3 = 7; slotOf 4 = 4; slotOf 5 = 7; slotOf 6 = 5; slotOf 7 = 8; slotOf 8 = 5");
         RUNS.holds("32: an export gives way to an import down to slot 0",
                 "addVessel 400 1 1 1; addVessel 0 1 1 1; addContainer 1 0 import 1 1; addContainer 0 0 export 1 1",
                 "setRoom 1 1",
