@@ -139,7 +139,7 @@ public final class EdgesOfBerthsTest {
         RUNS.holds("27: a time at which nobody lies there", one + "cranesAt 0 = 0; cranesAt 12 = 0");
         RUNS.holds("27: one goes as the other one comes",
                 TWO_BY_TURNS + "plan = 7; cranesAt 0 = 1; cranesAt 6 = 1; cranesAt 7 = 1; cranesAt 13 = 1",
-                        "cranesAt 14 = 0");
+                "cranesAt 14 = 0");
         RUNS.holds("26: the last one of six",
                 "setCranes 6; 6 x addVessel 9 1 1 1; plan = 0; placeOf 5 = 10; vesselAt 10 9 = 5",
                 "vesselAt 11 9 = -1; vesselAt 19 0 = -1; vesselAt 10 10 = -1");
@@ -292,10 +292,10 @@ public final class EdgesOfBerthsTest {
                 "setQuay 4; addVessel 0 4 1 1; addVessel 0 5 1 1; delayIf 0 400 = -1; delayIf 0 401 = argument");
         RUNS.holds("29: its arrival stays",
                 TWO_BY_TURNS + "delayIf 1 400 = 0; plan = 7; delayIf 1 400 = 0; delayIf 0 9 = 0",
-                        "setVessel 1 0 1 = 0; setVessel 0 0 1 = 0");
+                "setVessel 1 0 1 = 0; setVessel 0 0 1 = 0");
         RUNS.holds("29: the plan stays",
                 TWO_BY_TURNS + "plan = 7; delayIf 0 7 = 0; isPlanned = true; orderAt 0 = 0; startOf 0 = 0",
-                        "startOf 1 = 7; meanWait = 3.5");
+                "startOf 1 = 7; meanWait = 3.5");
         RUNS.holds("29: there is still no plan", TWO_BY_TURNS + "delayIf 0 7 = 0; isPlanned = false");
         RUNS.holds("29: slots and yard stay",
                 "addVessel 0 1 1 1; addStack 1; addContainer 0 0 import 1 1; plan; giveSlots; work 1 = 1",

@@ -70,12 +70,14 @@ public final class EdgesOfDigestTest {
         holds("a plan", VESSEL + "plan", list(1, 0, 0), OF_VESSEL, list(1, 0, 0, 0), list(0, 0, 0));
         holds("the order and where they lie", "setCranes 1; addVessel 0 1 1 1; addVessel 0 1 9 1; plan",
                 list(2, 0, 0), OF_VESSEL, OF_VESSEL, list(1, 1, 0, 1, 0, 0, 0), list(0, 0, 0));
-        holds("a plan with a container", VESSEL + "addContainer 0 0 export 1 1; plan",
-                list(1, 1, 0), list(1, 0, 2, 2, 0, 2, 0, 2), list(1, 0, 0, 0), list(2), list(0), list(0, -1), list(0,
-                        0));
+        holds("START and PLACE of one vessel, then of the next one",
+                "addVessel 7 1 1 1; addVessel 7 1 1 1; addVessel 9 1 1 1; plan", list(3, 0, 0), OF_VESSEL, OF_VESSEL,
+                OF_VESSEL, list(1, 0, 1, 2), list(7, 0, 7, 2, 9, 0), list(0, 0, 0));
+        holds("a plan with a container", VESSEL + "addContainer 0 0 export 1 1; plan", list(1, 1, 0),
+                list(1, 0, 2, 2, 0, 2, 0, 2), list(1, 0, 0, 0), list(2), list(0), list(0, -1), list(0, 0));
         holds("a plan that is gone", VESSEL + "plan; setCranes 3", list(1, 0, 0), OF_VESSEL, list(0, 0, 0, 0));
-        holds("no plan, as one cannot be planned", "addVessel 0 1 1 4; plan", list(1, 0, 0), OF_VESSEL, list(0, 0, 0,
-                0));
+        holds("no plan, as one cannot be planned", "addVessel 0 1 1 4; plan", list(1, 0, 0), OF_VESSEL,
+                list(0, 0, 0, 0));
     }
 
     private static void onlyWithSlots() {
@@ -84,8 +86,8 @@ public final class EdgesOfDigestTest {
         int[] plan = {1, 0, 0, 0, 2};
         int[] events = {2, 2, 0, 0, 20, 3, 0};
         holds("slots", one, list(1, 1, 0), vessel, plan, list(1), events, list(0, -1), list(0, 0));
-        holds("slots that are gone", one + "setWish 0 1", list(1, 1, 0), vessel, plan, list(0), list(0, -1), list(0,
-                0));
+        holds("slots that are gone", one + "setWish 0 1", list(1, 1, 0), vessel, plan, list(0), list(0, -1),
+                list(0, 0));
         holds("turned away", one + "work 1", list(1, 1, 0), vessel, plan, list(1), events, list(3, -1), list(0, 0));
         holds("slots, but no container", VESSEL + "plan; giveSlots", list(1, 0, 0), OF_VESSEL, list(1, 0, 0, 0),
                 list(0, 0, 0));
@@ -119,8 +121,8 @@ public final class EdgesOfDigestTest {
         int[] vessel = OF_VESSEL;
         BigInteger five = whole(list(5, 0, 0), vessel, vessel, vessel, vessel, vessel, list(0, 0, 0, 0));
         CHECK.holds("50: far beyond 64 bits", five.bitLength() > 200);
-        holds("wraps around", "5 x addVessel 0 1 1 1", list(5, 0, 0), vessel, vessel, vessel, vessel, vessel, list(0,
-                0, 0, 0));
+        holds("wraps around", "5 x addVessel 0 1 1 1", list(5, 0, 0), vessel, vessel, vessel, vessel, vessel,
+                list(0, 0, 0, 0));
         boolean isAbove = false;
         boolean isBelow = false;
         for (int stacks = 3; stacks <= 12; stacks++) {

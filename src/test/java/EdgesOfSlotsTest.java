@@ -44,14 +44,13 @@ public final class EdgesOfSlotsTest {
                 VESSEL + "addContainer 0 0 import 1 0; plan; movedAt 0 = 2");
         RUNS.holds("30: the 24th one, 48 ticks behind BEGIN",
                 VESSEL + "24 x addContainer 0 0 export 1 0; plan; movedAt 0 = 2; movedAt 22 = 46; movedAt 23 = 48",
-                        "handling 0 = 48");
+                "handling 0 = 48");
         RUNS.holds("30: imports ahead of exports, though of greater numbers",
                 VESSEL + "addContainer 0 0 export 1 0; addContainer 0 0 import 1 0; plan; movedAt 0 = 4",
-                        "movedAt 1 = 2");
+                "movedAt 1 = 2");
         RUNS.holds("30: by numbers among imports, and among exports",
                 VESSEL + "addContainer 0 0 export 1 0; addContainer 0 0 import 1 0; addContainer 0 0 export 1 0",
-                        "addContainer 0 0 import 1 0",
-                "plan; movedAt 1 = 2; movedAt 3 = 4; movedAt 0 = 6; movedAt 2 = 8");
+                "addContainer 0 0 import 1 0", "plan; movedAt 1 = 2; movedAt 3 = 4; movedAt 0 = 6; movedAt 2 = 8");
         RUNS.holds("30: those of other bays and other vessels do not count",
                 "addVessel 0 2 1 1; addVessel 0 2 1 1; addContainer 0 0 import 1 0; addContainer 1 1 import 1 0",
                 "addContainer 0 1 import 1 0",
@@ -124,7 +123,7 @@ public final class EdgesOfSlotsTest {
         RUNS.holds("33: the ends of int are none", TWO_GIVEN + "inSlot MIN = index; inSlot MAX = index");
         RUNS.holds("33: none, one and two",
                 VESSEL + "3 x addContainer 0 0 import 1 5; plan; giveSlots = 1; inSlot 3 = 0; inSlot 4 = 1",
-                        "inSlot 5 = 2");
+                "inSlot 5 = 2");
         RUNS.holds("33: as many as it has room for",
                 VESSEL + "setRoom 5 6; 6 x addContainer 0 0 import 1 5; plan; giveSlots = 0; inSlot 5 = 6");
     }
@@ -145,7 +144,7 @@ public final class EdgesOfSlotsTest {
         RUNS.holds("34: room 0 is the least", TWO_PLANNED + "costIf 3 0 = 1");
         RUNS.holds("34: room 6 is the most",
                 VESSEL + "6 x addContainer 0 0 import 1 5; plan; costIf 5 2 = 4; costIf 5 5 = 1; costIf 5 6 = 0",
-                        "giveSlots = 4");
+                "giveSlots = 4");
         RUNS.holds("34: room -1 is too small", TWO_PLANNED + "costIf 3 -1 = argument");
         RUNS.holds("34: room 7 is too large", TWO_PLANNED + "costIf 3 7 = argument");
         RUNS.holds("34: room, the ends of int", TWO_PLANNED + "costIf 3 MIN = argument; costIf 3 MAX = argument");
@@ -228,7 +227,7 @@ public final class EdgesOfSlotsTest {
                 VESSEL + "6 x addContainer 0 0 import 1 5; setRoom 5 6; plan; giveSlots = 0; inSlot 5 = 6");
         RUNS.holds("31: room for 6, wanted by 7",
                 VESSEL + "7 x addContainer 0 0 import 1 5; setRoom 5 6; plan; giveSlots = 1; inSlot 5 = 6",
-                        "inSlot 4 = 1");
+                "inSlot 4 = 1");
         RUNS.holds("31: imports and exports share the room",
                 "addVessel 0 1 1 1; addVessel 400 1 1 1; addContainer 0 0 import 1 5; addContainer 1 0 export 1 5",
                 "setRoom 5 1",
@@ -242,7 +241,7 @@ public final class EdgesOfSlotsTest {
                 VESSEL + "addContainer 0 0 import 1 5; plan; giveSlots = 0; slotOf 0 = 5");
         RUNS.holds("32: container 0 as early as can be, though it could have its WISH",
                 VESSEL + "2 x addContainer 0 0 import 1 5; setRoom 5 1; plan; giveSlots = 1; slotOf 0 = 4",
-                        "slotOf 1 = 5");
+                "slotOf 1 = 5");
         RUNS.holds("32: then container 1",
                 VESSEL + "3 x addContainer 0 0 import 1 5; setRoom 5 1; setRoom 4 1; plan; giveSlots = 2",
                 "slotOf 0 = 4; slotOf 1 = 5; slotOf 2 = 6");

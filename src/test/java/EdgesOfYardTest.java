@@ -22,6 +22,7 @@ public final class EdgesOfYardTest {
         weights();
         firsts();
         firstsByATick();
+        leavingByTheLastEvent();
         leavingWithoutSlot();
         turnedAway();
         reshuffled();
@@ -184,8 +185,8 @@ public final class EdgesOfYardTest {
         RUNS.holds("40: 4, missed", SHUT_IN, "work 3 = 3; stateOf 0 = 4; stackOf 0 = 0");
         RUNS.holds("40: an export without a slot never comes",
                 yard(1) + "addContainer 0 0 export 1 1; plan; giveSlots = 40; work MAX = 0; stateOf 0 = 0");
-        RUNS.holds("40: an import without a slot never leaves", "addStack 1; addVessel 400 1 1 1; " + imports(1,
-                1) + "plan; giveSlots = 40",
+        RUNS.holds("40: an import without a slot never leaves",
+                "addStack 1; addVessel 400 1 1 1; " + imports(1, 1) + "plan; giveSlots = 40",
                 "work MAX = 1; stateOf 0 = 1; inTheEnd 3 = 1");
     }
 
@@ -256,8 +257,8 @@ public final class EdgesOfYardTest {
     private static void firsts() {
         RUNS.holds("41: FIRST alike to its LEAVING", yard(2, 2) + imports(10, 9, 10, 9) + GIVEN,
                 "work 2; stackOf 1 = 0; blocking = 0");
-        RUNS.holds("41: FIRST alike to its LEAVING, on the second stack", yard(2, 2, 2) + imports(10, 12, 30, 9, 10,
-                9) + GIVEN,
+        RUNS.holds("41: FIRST alike to its LEAVING, on the second stack",
+                yard(2, 2, 2) + imports(10, 12, 30, 9, 10, 9) + GIVEN,
                 "work 3; stackOf 0 = 0; stackOf 1 = 1; stackOf 2 = 1; blocking = 0");
         RUNS.holds("41: FIRST less than its LEAVING", yard(2, 2) + imports(10, 8, 10, 9) + GIVEN,
                 "work 2; stackOf 1 = 1");
@@ -265,8 +266,8 @@ public final class EdgesOfYardTest {
                 "work 2; stackOf 1 = 0");
         RUNS.holds("41: of those that are not less the smallest", yard(2, 2, 2) + imports(10, 9, 30, 8, 10, 7) + GIVEN,
                 "work 3; stackOf 0 = 0; stackOf 1 = 1; stackOf 2 = 1");
-        RUNS.holds("41: one that is not less, though smaller ones are less", yard(2, 2, 2) + imports(10, 5, 30, 9, 10,
-                7) + GIVEN,
+        RUNS.holds("41: one that is not less, though smaller ones are less",
+                yard(2, 2, 2) + imports(10, 5, 30, 9, 10, 7) + GIVEN,
                 "work 3; stackOf 0 = 0; stackOf 1 = 1; stackOf 2 = 1");
         RUNS.holds("41: all less, the greatest of the second one", yard(2, 2) + imports(10, 5, 30, 6, 10, 9) + GIVEN,
                 "work 3; stackOf 1 = 1; stackOf 2 = 1; blocking = 1");
@@ -277,11 +278,10 @@ public final class EdgesOfYardTest {
                 "work 3; stackOf 1 = 1; stackOf 2 = 0");
         RUNS.holds("41: less and alike", yard(2, 2) + imports(1, 5, 10, 5, 1, 9) + GIVEN,
                 "work 3; stackOf 1 = 1; stackOf 2 = 0; blocking = 1");
-        RUNS.holds("41: FIRST is the least, not that of the lowest one", yard(3, 3) + imports(20, 5, 20, 4, 20,
-                5) + GIVEN,
-                "work 3; stackOf 1 = 0; stackOf 2 = 1");
-        RUNS.holds("41: FIRST is the least, not that of the uppermost one", yard(3, 2) + imports(20, 4, 1, 9, 20, 5, 1,
-                5) + GIVEN,
+        RUNS.holds("41: FIRST is the least, not that of the lowest one",
+                yard(3, 3) + imports(20, 5, 20, 4, 20, 5) + GIVEN, "work 3; stackOf 1 = 0; stackOf 2 = 1");
+        RUNS.holds("41: FIRST is the least, not that of the uppermost one",
+                yard(3, 2) + imports(20, 4, 1, 9, 20, 5, 1, 5) + GIVEN,
                 "work 4; containerAt 0 0 = 0; containerAt 0 1 = 2; containerAt 1 0 = 1; stackOf 3 = 1");
         RUNS.holds("41: a full stack does not count", yard(1, 2) + imports(10, 9, 10, 8) + GIVEN,
                 "work 2; stackOf 1 = 1");
@@ -301,6 +301,19 @@ public final class EdgesOfYardTest {
         RUNS.holds("45: LEAVING " + sentence + ", one stack", "addStack 2; " + exports + onOne);
     }
 
+    /** An import below an export; a slot begins at 60, and the export is moved 2 ticks behind the arrival. */
+    private static void leavingByTheLastEvent() {
+        String[] sentences = {"a tick ahead of the slot's begin", "as the slot begins", "a tick behind that"};
+        for (int i = 0; i < 3; i++) {
+            int arrival = 59 + i;
+            RUNS.holds("45: an export is taken out " + sentences[i],
+                    yard(2) + imports(10, 3) + "addVessel " + arrival + " 1 1 1; addContainer 1 0 export 10 1",
+                    GIVEN,
+                    "movedAt 1 = " + (arrival + 2) + "; work 2 = 2; containerAt 0 1 = 1",
+                    "blocking = " + (arrival > 60 ? 1 : 0));
+        }
+    }
+
     private static void leavingWithoutSlot() {
         String two = "addVessel 400 1 1 1; " + imports(10, 1, 10, 1) + "plan; giveSlots = 80; work 2 = 2; ";
         RUNS.holds("41: 1000 on 1000 rather than on an empty stack", "addStack 2; addStack 2; " + two,
@@ -313,12 +326,16 @@ public final class EdgesOfYardTest {
         RUNS.holds("45: 1000 on 402 blocks", "addStack 2; " + both,
                 "work 2; stackOf 1 = 0; blocking = 1; work 1 = 3; stateOf 0 = 4");
         RUNS.holds("41: one with a slot on 1000 rather than on an empty stack",
-                "addStack 2; addStack 2; addVessel 0 1 1 1",
-                "setRoom 5 1; setRoom 15 0; setRoom 14 0; setRoom 13 0; setRoom 12 0; setRoom 11 0; setRoom 10 0",
-                "setRoom 9 0; setRoom 8 0",
-                "setRoom 7 0; setRoom 6 0; setRoom 4 0; setRoom 3 0; setRoom 2 0; setRoom 1 0",
-                imports(1, 0, 1,
-                        5) + "plan; giveSlots = 40; slotOf 0 = -1; slotOf 1 = 5; work 2; stackOf 1 = 0; blocking = 0");
+                yard(2, 2) + Runs.roomOnlyIn(5) + imports(1, 0, 1, 5) + "plan; giveSlots = 40",
+                "slotOf 0 = -1; slotOf 1 = 5; work 2; stackOf 1 = 0; blocking = 0");
+        // 1 is too heavy for 0, so it stands on stack 1; 0 is gone as 2 comes.
+        String three = imports(1, 1, 40, 15) + "addVessel 30 1 1 1; addContainer 1 0 import 10 3; plan = 0; ";
+        RUNS.holds("41: one with a slot on 1000 rather than on an empty stack with a smaller number",
+                yard(2, 2) + Runs.roomOnlyIn(1, 3) + three + "giveSlots = 40; slotOf 1 = -1; slotOf 2 = 3",
+                "work 3 = 3; stackOf 1 = 1; heightOf 0 = 0; work 1 = 4; stackOf 2 = 1; blocking = 0");
+        RUNS.holds("41: 1000 on 1000 rather than on an empty stack with a smaller number",
+                yard(2, 2) + Runs.roomOnlyIn(1) + three + "giveSlots = 80; slotOf 1 = -1; slotOf 2 = -1",
+                "work 3 = 3; stackOf 1 = 1; heightOf 0 = 0; work 1 = 4; stackOf 2 = 1; blocking = 0");
     }
 
     private static void turnedAway() {
@@ -349,6 +366,10 @@ public final class EdgesOfYardTest {
         RUNS.holds("44: on the stack with number 0, too", yard(1, 2) + imports(40, 3, 10, 4, 18, 9) + GIVEN,
                 "work 3; stackOf 0 = 0; stackOf 1 = 1; stackOf 2 = 1; work 1 = 4; wouldTake 1 = 1; work 1 = 5",
                 "reshuffles = 1; stackOf 2 = 0");
+        RUNS.holds("44: among all stacks but the one on which it stands, though that one is alike and has a place",
+                yard(3, 2) + imports(10, 3, 40, 3, 18, 9) + GIVEN,
+                "work 3; stackOf 1 = 1; stackOf 2 = 0; wouldTake 0 = 1; work 1 = 4; stateOf 0 = 2; stackOf 2 = 1",
+                "reshuffles = 1; work 1 = 5; stateOf 1 = 2; stackOf 2 = 0; reshuffles = 2");
         RUNS.holds("44: those below it stay", yard(3, 3) + imports(10, 9, 10, 8, 10, 7) + GIVEN,
                 "work 4 = 4; stateOf 2 = 2; containerAt 0 0 = 0; containerAt 0 1 = 1; heightOf 0 = 2; reshuffles = 0");
         RUNS.holds("44: 0 again with slots given anew", ONE_ABOVE,
@@ -363,13 +384,22 @@ public final class EdgesOfYardTest {
         RUNS.holds("40: the other stack is full", ONE_ABOVE + "work 3", "wouldTake 0 = -1; wouldTake 2 = 0");
         RUNS.holds("40: too heavy for the other stack", yard(2, 2) + imports(10, 3, 9, 9, 18, 12) + GIVEN,
                 "work 3; stackOf 0 = 0; stackOf 1 = 1; stackOf 2 = 0; wouldTake 0 = -1");
-        RUNS.holds("40: nothing is moved at all, though one could be", yard(3, 1) + imports(10, 4, 40, 3, 12, 9, 12,
-                10) + GIVEN,
+        RUNS.holds("40: nothing is moved at all, though one could be",
+                yard(3, 1) + imports(10, 4, 40, 3, 12, 9, 12, 10) + GIVEN,
                 "work 5 = 5; containerAt 0 2 = 3; wouldTake 2 = 1; wouldTake 0 = -1; work 1 = 6; stateOf 0 = 4",
-                "reshuffles = 0",
-                "containerAt 0 0 = 0; containerAt 0 1 = 2; containerAt 0 2 = 3; heightOf 1 = 0");
+                "reshuffles = 0", "containerAt 0 0 = 0; containerAt 0 1 = 2; containerAt 0 2 = 3; heightOf 1 = 0");
         RUNS.holds("40: it stays where it is till the end", SHUT_IN,
                 "work MAX = 4; stateOf 0 = 4; stackOf 0 = 0; heightOf 0 = 1; stateOf 1 = 2");
+        // 2 is missed at 60, as 1 fills the other stack up to 80; at 100 it has to give way to 0.
+        RUNS.holds("40: still 4, though it is moved as another one leaves",
+                yard(3, 1) + imports(10, 5, 40, 4, 10, 3, 10, 4) + GIVEN,
+                "work 5 = 5; stateOf 2 = 4; work 2 = 7; wouldTake 2 = 0; work 1 = 8; stateOf 0 = 2; stackOf 2 = 1",
+                "stateOf 2 = 4; reshuffles = 1; wouldTake 2 = 0; inTheEnd 2 = 1; inTheEnd 3 = 1");
+        // 0 and 3 are missed, as 1 and 2 fill the other stacks up to 100.
+        RUNS.holds("40: still 4, though tidy moves it",
+                yard(3, 1, 1) + imports(10, 3, 40, 5, 40, 5, 10, 4, 10, 9) + GIVEN,
+                "work 9 = 9; stateOf 0 = 4; stateOf 3 = 4; blocking = 2; wouldTake 3 = 1; tidy MAX = 2",
+                "stackOf 4 = 1; stackOf 3 = 2; stateOf 3 = 4; stateOf 0 = 4; wouldTake 3 = 0; blocking = 0");
         RUNS.holds("40: still 4 with nobody above it", SHUT_IN,
                 "work MAX = 4; stateOf 0 = 4; wouldTake 0 = 0; inTheEnd 2 = 1; inTheEnd 3 = 1");
     }
@@ -384,6 +414,8 @@ public final class EdgesOfYardTest {
                 "work 2; heightOf 0 = 2; blocking = 0");
         RUNS.holds("45: not only the one right below counts", yard(3) + imports(10, 3, 10, 9, 10, 5) + GIVEN,
                 "work 3; heightOf 0 = 3; blocking = 2");
+        RUNS.holds("45: not only the lowest one counts", yard(3) + imports(10, 5, 10, 3, 10, 4) + GIVEN,
+                "work 3; heightOf 0 = 3; blocking = 1");
         RUNS.holds("45: each counts once", yard(5) + imports(10, 3, 10, 4, 10, 5, 10, 6, 10, 7) + GIVEN,
                 "work 5; heightOf 0 = 5; blocking = 4");
         RUNS.holds("45: those missed count, too", SHUT_IN,
@@ -405,8 +437,8 @@ public final class EdgesOfYardTest {
                 "work 13 = 13; heightOf 0 = 5; heightOf 1 = 0; heightOf 2 = 0; wouldTake 0 = 4; wouldTake 8 = 0");
         RUNS.holds("46: nothing is moved", ONE_ABOVE,
                 "work 4; wouldTake 0 = 1; containerAt 0 1 = 2; heightOf 1 = 0; reshuffles = 0; stateOf 0 = 1");
-        RUNS.holds("46: nothing is moved, though it would be missed", yard(3, 1) + imports(10, 4, 40, 3, 12, 9, 12,
-                10) + GIVEN,
+        RUNS.holds("46: nothing is moved, though it would be missed",
+                yard(3, 1) + imports(10, 4, 40, 3, 12, 9, 12, 10) + GIVEN,
                 "work 5; wouldTake 0 = -1; containerAt 0 1 = 2; containerAt 0 2 = 3; heightOf 1 = 0; stackOf 3 = 0",
                 "stateOf 0 = 1; reshuffles = 0");
     }
@@ -431,10 +463,19 @@ public final class EdgesOfYardTest {
         RUNS.holds("47: the other stack is full", ONE_ABOVE, "work 3; blocking = 1; tidy MAX = 0; stackOf 2 = 0");
         RUNS.holds("47: too heavy for the other stack", yard(2, 2) + imports(10, 3, 9, 9, 18, 12) + GIVEN,
                 "work 3; blocking = 1; tidy MAX = 0; stackOf 2 = 0");
+        RUNS.holds("47: the other stack is full of one that leaves later",
+                yard(2, 1) + imports(10, 4, 40, 12, 18, 9) + GIVEN,
+                "work 3; blocking = 1; tidy MAX = 0; stackOf 2 = 0");
+        RUNS.holds("47: too heavy for one that leaves later", yard(2, 2) + imports(10, 3, 9, 12, 18, 9) + GIVEN,
+                "work 3; stackOf 1 = 1; blocking = 1; tidy MAX = 0; stackOf 2 = 0");
+        RUNS.holds("47: to the smallest number, though a FIRST behind it is nearer to its LEAVING",
+                yard(2, 1, 2) + imports(10, 3, 40, 2, 40, 10, 40, 2, 18, 9) + GIVEN,
+                "work 7 = 7; heightOf 1 = 0; containerAt 2 0 = 2; heightOf 2 = 1; blocking = 1; tidy 1 = 1",
+                "stackOf 4 = 1; blocking = 0");
         RUNS.holds("47: it would block there, too", yard(2, 2) + imports(10, 3, 30, 2, 10, 9) + GIVEN,
                 "work 3; stackOf 1 = 1; stackOf 2 = 0; blocking = 1; tidy MAX = 0; stackOf 2 = 0; reshuffles = 0");
-        String two = yard(2, 2, 1, 1) + imports(30, 4, 10, 5, 40, 2, 40, 2, 38, 12, 18,
-                11) + GIVEN + "work 8 = 8; blocking = 2; ";
+        String two = yard(2, 2, 1, 1) + imports(30, 4, 10, 5, 40, 2, 40, 2, 38, 12, 18, 11) + GIVEN
+                + "work 8 = 8; blocking = 2; ";
         RUNS.holds("47: to the stack with number 0, too", yard(1, 2) + imports(40, 3, 10, 4, 18, 9) + GIVEN,
                 "work 4; blocking = 1; tidy MAX = 1; blocking = 0; stackOf 2 = 0; reshuffles = 1");
         RUNS.holds("47: on one of the same time it does not block",
@@ -483,6 +524,17 @@ public final class EdgesOfYardTest {
                 "work 3; inTheEnd 0 = 1; reshuffles = 0; stateOf 1 = 1; stackOf 2 = 0; work 0 = 3; work 1 = 4");
         RUNS.holds("48: from now on, with what there is", ONE_ABOVE,
                 "work 4; tidy 1 = 1; inTheEnd 0 = 1; work MAX; inTheEnd 0 = 1; reshuffles = 1");
+        // 1 is gone at 40; tidy takes 2 from 0 away, and so the place from 3, which comes at 50.
+        String tidied = yard(2, 1) + imports(10, 3, 40, 2, 18, 9) + "addVessel 48 1 1 1; "
+                + "addContainer 1 0 import 40 12; " + GIVEN + "work 4 = 4; ";
+        RUNS.holds("48: from now on, without tidy",
+                tidied + "inTheEnd 0 = 0; inTheEnd 1 = 0; inTheEnd 2 = 1; inTheEnd 3 = 1");
+        RUNS.holds("48: from now on, behind tidy",
+                tidied + "tidy 1 = 1; inTheEnd 0 = 1; inTheEnd 1 = 1; inTheEnd 2 = 0; inTheEnd 3 = 0",
+                "work 1 = 5; stateOf 3 = 3; work MAX = 8; stateOf 0 = 2; stateOf 2 = 2; reshuffles = 1");
+        RUNS.holds("48: all of 48 events",
+                "12 x addStack 5; addVessel 0 1 1 1; 24 x addContainer 0 0 import 7 8; plan; giveSlots; events = 48",
+                "inTheEnd 3 = 0; inTheEnd 2 = 0; work 0 = 0; work 24 = 24; inTheEnd 3 = 0; heightOf 0 = 2");
         RUNS.holds("48: all are worked off", SHUT_IN,
                 "work MAX = 4; inTheEnd 0 = 0; inTheEnd 1 = 0; inTheEnd 2 = 1; inTheEnd 3 = 1; work 0 = 4");
         RUNS.holds("48: those that stand and those missed",

@@ -60,6 +60,19 @@ final class Runs {
         return made;
     }
 
+    /** Room for one truck in each of these slots, and for none in all others. */
+    static String roomOnlyIn(int... slots) {
+        int[] rooms = new int[16];
+        for (int slot : slots) {
+            rooms[slot] = 1;
+        }
+        StringBuilder text = new StringBuilder();
+        for (int slot = 0; slot < rooms.length; slot++) {
+            text.append("setRoom ").append(slot).append(' ').append(rooms[slot]).append("; ");
+        }
+        return text.toString();
+    }
+
     /** What a call answers that is told as a text. */
     static String answer(Calls calls, Object object, String text) {
         String[] words = text.split(" ");
