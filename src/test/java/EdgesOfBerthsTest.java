@@ -249,6 +249,10 @@ public final class EdgesOfBerthsTest {
                 "setCranes 1; addVessel 0 2 1 1; addVessel 0 2 9 1; plan = 3; orderAt 0 = 1; startOf 0 = 3");
         RUNS.holds("21: rank * handling alike",
                 "setCranes 1; addVessel 0 1 1 1; addVessel 0 2 3 1; plan = 3; orderAt 0 = 0; startOf 1 = 1");
+        RUNS.holds("23: six vessels, the last one first and the first one last",
+                "setCranes 1; addVessel 0 1 1 1; addVessel 0 1 2 1; addVessel 0 1 3 1; addVessel 0 1 4 1",
+                "addVessel 0 1 5 1; addVessel 0 1 6 1; delayByNumbers = 70; plan = 35; orderAt 0 = 5; orderAt 1 = 4",
+                "orderAt 2 = 3; orderAt 3 = 2; orderAt 4 = 1; orderAt 5 = 0; startOf 5 = 0; startOf 0 = 5");
         RUNS.holds("21: nobody waits", "addVessel 400 1 9 1; addVessel 399 1 9 1; plan = 0");
         RUNS.holds("21: planned again", TWO_BY_TURNS + "plan = 7; plan = 7; startOf 0 = 0; startOf 1 = 7");
     }
